@@ -1751,7 +1751,7 @@ public final class ForthHouse {
     }
 
     private void grow(long n) {
-      total = (int) Math.min(Integer.MAX_VALUE, total + n);
+      total = (int) Math.min(2147483647, total + n);
     }
 
     void emit(int letter) {

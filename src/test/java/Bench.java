@@ -1,0 +1,130 @@
+/** What the tests share: a house with one system on it, texts given as strings, and the counting. */
+public final class Bench {
+  private static int wrong = 0;
+
+  final ForthHouse house = new ForthHouse();
+  private final String part;
+  private boolean good = true;
+
+  Bench(String part) {
+    this.part = part;
+  }
+
+  /** A bench with system 0 of such cells and choices. */
+  Bench(String part, int cell, int choices) {
+    this(part);
+    house.system(cell, choices);
+  }
+
+  void due(String what, long got, long want) {
+    if (got == want) return;
+    good = false;
+    System.out.println("FAIL? " + part + ": " + what + " answered " + got + ", due is " + want);
+  }
+
+  void due(String what, String got, String want) {
+    if (got.equals(want)) return;
+    good = false;
+    System.out.println("FAIL? " + part + ": " + what + " answered [" + got + "], due is [" + want + "]");
+  }
+
+  void due(String what, boolean got, boolean want) {
+    due(what, got ? 1 : 0, want ? 1 : 0);
+  }
+
+  /** Says how the part went. */
+  void end() {
+    System.out.println((good ? "pass " : "FAIL ") + part);
+    if (!good) wrong++;
+  }
+
+  static void exit() {
+    if (wrong > 0) System.exit(1);
+  }
+
+  void type(String text) {
+    for (int i = 0; i < text.length(); i++) house.type(text.charAt(i), 1);
+  }
+
+  int run(int system, String text, int steps) {
+    type(text);
+    return house.evaluate(system, steps);
+  }
+
+  int run(String text) {
+    return run(0, text, 20000);
+  }
+
+  /** Runs a text of system 0 that goes well. */
+  void good(String text) {
+    due("running " + text, run(text), 0);
+  }
+
+  /** Runs a text of system 0 that is thrown out with a code. */
+  void thrown(String text, int code) {
+    due("running " + text, run(text), -2);
+    due("code of " + text, house.thrown(0, 0), code);
+  }
+
+  /** Runs a text; then DATA of task 0 is so, from the lowest cell on; and it is dropped. */
+  void data(String text, String want) {
+    good(text);
+    due("DATA after " + text, data(0, 0), want);
+    for (int n = house.depth(0, 0, 0); n > 0; n--) run("DROP");
+  }
+
+  /** What a THROW leaves, caught: DATA from the lowest cell on, the code on top. */
+  void caught(String before, String definition, String want) {
+    data(": (t) " + definition + " ; " + before + " ' (t) CATCH", want);
+  }
+
+  String data(int system, int task) {
+    return cells(system, task, 0);
+  }
+
+  String cells(int system, int task, int which) {
+    StringBuilder all = new StringBuilder();
+    int n = house.depth(system, task, which);
+    for (int i = n - 1; i >= 0; i--) {
+      if (all.length() > 0) all.append(' ');
+      all.append(house.cell(system, task, which, i));
+    }
+    return all.toString();
+  }
+
+  String out(int system) {
+    StringBuilder all = new StringBuilder();
+    int b = house.out(system, 0);
+    for (int i = 0; b >= 0; b = house.out(system, ++i)) all.append((char) b);
+    return all.toString();
+  }
+
+  /** Runs a text of a new house's system with such cells: what it puts out. */
+  static String output(int cell, int choices, String text) {
+    Bench bench = new Bench("", cell, choices);
+    int ended = bench.run(text);
+    return ended == 0 ? bench.out(0) : "ended " + ended + " code " + bench.house.thrown(0, 0);
+  }
+
+  int find(String name) {
+    type(name);
+    return house.find(0);
+  }
+
+  /** Kinds and numbers of items, from a place on. */
+  String items(int system, int from, int end) {
+    StringBuilder all = new StringBuilder();
+    for (int i = from; i < end; i++) {
+      if (all.length() > 0) all.append(' ');
+      all.append(house.item(system, i, 0)).append(':').append(house.item(system, i, 1));
+    }
+    return all.toString();
+  }
+
+  /** Effect, IN, OUT and the place of what is in the way, of a word of system 0. */
+  String effect(String name) {
+    int token = find(name);
+    return house.effect(0, token) + " " + house.effectOf(0, token, 0) + " "
+        + house.effectOf(0, token, 1) + " " + house.effectOf(0, token, 2);
+  }
+}

@@ -55,6 +55,13 @@ public final class Bench {
     return run(0, text, 20000);
   }
 
+  /** Runs a text of system 0 to its end, however many steps it takes. */
+  int runOn(String text) {
+    int ended = run(text);
+    for (int i = 0; i < 20 && ended == 1; i++) ended = house.go(0, 20000);
+    return ended;
+  }
+
   /** Runs a text of system 0 that goes well. */
   void good(String text) {
     due("running " + text, run(text), 0);

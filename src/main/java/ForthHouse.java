@@ -1156,6 +1156,7 @@ public final class ForthHouse {
 
     /** A word more, of a name of n bytes (0: without one); there is room for it. */
     int make(int kind, int value, int list, byte[] name, int n) {
+      if (total >= WORDS_ROOM) return NONE;
       int token = total;
       kinds[token] = (byte) kind;
       flags[token] = (byte) (kind == DEFINED ? HIDDEN : 0);
@@ -1324,6 +1325,8 @@ public final class ForthHouse {
       length = inMain ? mainLength : lengths[top];
       if (inMain) source = main;
       else source = inBlock ? blocks : space.bytes;
+      from = Math.max(0, Math.min(from, source.length));
+      length = Math.max(0, Math.min(length, source.length - from));
     }
 
     void start(byte[] bytes, int n) {
@@ -1362,7 +1365,7 @@ public final class ForthHouse {
       if (!hasText) return 0;
       int at = (int) Math.min(space.bare(space.cellAt(IN_AT)), length);
       while (at < length && isBlank(source[from + at])) at++;
-      while (at < length && !isBlank(source[from + at])) {
+      while (at < length && readLength < SPACE_ROOM && !isBlank(source[from + at])) {
         read[readLength++] = source[from + at];
         at++;
       }
@@ -1704,6 +1707,7 @@ public final class ForthHouse {
 
     /** A place to go back to: the number of a MARKER more; there is room for it. */
     int mark(int items, int here, int latest) {
+      if (markers >= MARKERS_ROOM) return NONE;
       int m = markers;
       markItems[m] = items;
       markLists[m] = total;
@@ -1774,6 +1778,7 @@ public final class ForthHouse {
 
     /** A number by a base of 2 .. 36, with a blank behind it. */
     void print(long number, int base) {
+      if (base < 2) return;
       long rest = Math.abs(number);
       int n = 0;
       do {
@@ -2174,7 +2179,7 @@ public final class ForthHouse {
       met = 0;
       meet(token);
       int size = 0;
-      for (int q = 0; q < met; q++) {
+      for (int q = 0; q < WORDS_ROOM && q < met; q++) {
         int at = queue[q];
         if (!forth.words.isEnded(at) || forth.words.has(at, WITHIN_ONE | HOLDS_ONE)) return 0;
         starts[at] = size;

@@ -39,8 +39,8 @@ public final class ChipTest {
     Bench b = new Bench("what the chip is not made of", 4, 0);
     b.good("5 VALUE v DEFER d : con CREATE DOES> ; con x CREATE y MARKER m : q [: 1 ;] ; : qq q ; : in DUP ;");
     for (String t : ("HERE|ALLOT|,|C,|ALIGN|.|EMIT|BASE|>IN|EXECUTE|>BODY|CATCH|THROW|ABORT|PAUSE|TASK|v|d|x|m|q|qq"
-        + "|con|5 TO v|' DUP IS d|ABORT\" x\"|POSTPONE DUP|.\" a\"|DOES>|[: ;]|CHAR|COUNT TYPE|IMMEDIATE").split("\\|")) {
-      b.good(": w " + t.replace("' DUP IS", "['] DUP IS") + " ;");
+        + "|con|5 TO v|['] DUP IS d|ABORT\" x\"|POSTPONE DUP|.\" a\"|DOES>|[: ;]|CHAR|COUNT TYPE|IMMEDIATE").split("\\|")) {
+      b.good(": w " + t + " ;");
       b.due("w of " + t, make(b, "w"), 0);
     }
     for (String t : ("?DUP|PICK|ROLL|DEPTH|>R|2R>|FM/MOD|WITHIN|FALSE|!|2@|ALIGNED|COUNT|MOVE|FILL|I|J|UNLOOP|EXIT|in").split("\\|")) {

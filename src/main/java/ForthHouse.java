@@ -684,17 +684,12 @@ public final class ForthHouse {
       frameCount--;
     }
 
-    /** What EXIT would throw here, the kind of the frame aside. */
-    int exitFault() {
-      if (returnCount != base(RETURNS)) return RETURN_LEFT;
-      return loopCount != base(LOOPED) ? NO_LOOP : 0;
-    }
-
     int exit() {
       if (frameKind() != F_DEFINITION) return NOT_HERE;
-      int fault = exitFault();
-      if (fault == 0) close();
-      return fault;
+      if (returnCount != base(RETURNS)) return RETURN_LEFT;
+      if (loopCount != base(LOOPED)) return NO_LOOP;
+      close();
+      return 0;
     }
 
     int latestCatch() {
@@ -2162,7 +2157,8 @@ public final class ForthHouse {
       if (size == 0) return 0;
       for (int q = 0; q < met; q++) layDefinition(forth, queue[q]);
       space.become(forth.space);
-      rows.place = 0;
+      // As in a task, the definition that goes on has a frame.
+      rows.enter(0);
       state = GOES;
       return length;
     }
@@ -2291,9 +2287,8 @@ public final class ForthHouse {
       int lack = rows.lack(TAKES[number], LEAVES[number]);
       if (lack != 0) return lack;
       if (number != EXIT) return rows.core(number);
-      if (rows.frameCount > 0) return rows.exit();
-      int code = rows.exitFault();
-      if (code == 0) state = OVER;
+      int code = rows.exit();
+      if (code == 0 && rows.frameCount == 0) state = OVER;
       return code;
     }
 

@@ -140,9 +140,11 @@ public final class ChipTest {
     b.due("FRAMES are full", b.house.chipGo(1000), -2);
     b.due("-5", b.house.chipTold(4), -5);
     b.due("40", b.house.chipTold(7), 40);
+    b.due("the definition itself and 39 that it does", b.house.chipTold(5), 40);
     make(b, "r");
+    b.due("FRAMES as it begins", b.house.chipTold(7), 1);
     b.house.chipGo(6);
-    b.due("FRAMES", b.house.chipTold(7), 2);
+    b.due("FRAMES", b.house.chipTold(7), 3);
     b.due("RETURN", b.house.chipTold(2), 2);
     make(b, "t");
     b.house.chipPut(3);

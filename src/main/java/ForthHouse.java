@@ -149,7 +149,7 @@ public final class ForthHouse {
   private final Forth[] systems = new Forth[SYSTEMS];
   private int systemCount;
   private final Forth[] images = new Forth[IMAGES];
-  private final Chip chip = new Chip();
+  private final Chip board = new Chip();
 
   public ForthHouse() {
   }
@@ -285,32 +285,32 @@ public final class ForthHouse {
   public int chip(int system, int token) {
     Forth forth = systemOf(system);
     if (forth == null || !forth.words.isEnded(token)) return BAD;
-    return chip.make(forth, token);
+    return board.make(forth, token);
   }
 
   public int chipWord(int place) {
-    return chip.holds(place) ? chip.words[place] : NONE;
+    return board.holds(place) ? board.words[place] : NONE;
   }
 
   public int chipPut(int v) {
-    return chip.receive(v);
+    return board.receive(v);
   }
 
   public int chipGo(int steps) {
-    return stepsGood(steps) ? chip.run(steps) : BAD;
+    return stepsGood(steps) ? board.run(steps) : BAD;
   }
 
   public int chipTold(int what) {
-    return chip.tell(what);
+    return board.tell(what);
   }
 
   public int chipCell(int i) {
-    return chip.rows.cellOf(0, i);
+    return board.rows.cellOf(0, i);
   }
 
   public int chipByte(int at) {
-    if (chip.state == Chip.ABSENT || !chip.space.holds(at, 1)) return NONE;
-    return chip.space.byteAt(at);
+    if (board.state == Chip.ABSENT || !board.space.holds(at, 1)) return NONE;
+    return board.space.byteAt(at);
   }
 
   public int put(int system, int block, int at) {

@@ -1320,8 +1320,8 @@ public final class ForthHouse {
       length = inMain ? mainLength : lengths[top];
       if (inMain) source = main;
       else source = inBlock ? blocks : space.bytes;
-      from = Math.max(0, Math.min(from, source.length));
-      length = Math.max(0, Math.min(length, source.length - from));
+      if (from < 0 || from > source.length) from = 0;
+      if (length < 0 || length > source.length - from) length = 0;
     }
 
     void start(byte[] bytes, int n) {
@@ -1750,7 +1750,7 @@ public final class ForthHouse {
     }
 
     private void grow(long n) {
-      total = (int) Math.min(2147483647, total + n);
+      total = n > 2147483647 - total ? 2147483647 : (int) (total + n);
     }
 
     void emit(int letter) {
@@ -1900,7 +1900,7 @@ public final class ForthHouse {
         heights[at] = height;
         returns[at] = held;
         loops[at] = looped;
-        low = Math.min(low, at);
+        if (at < low) low = at;
       } else if (result == KNOWN
           && (heights[at] != height || returns[at] != held || loops[at] != looped)) {
         result = CONFLICT;
@@ -1909,7 +1909,7 @@ public final class ForthHouse {
     }
 
     private void take(int at, int n) {
-      if (n != 0) lowest = Math.min(lowest, heights[at] - n);
+      if (n != 0 && heights[at] - n < lowest) lowest = heights[at] - n;
     }
 
     /** Takes cells, leaves cells, and goes on behind. */

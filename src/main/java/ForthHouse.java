@@ -2157,8 +2157,8 @@ public final class ForthHouse {
       if (size == 0) return 0;
       for (int q = 0; q < met; q++) layDefinition(forth, queue[q]);
       space.become(forth.space);
-      // As in a task, the definition that goes on has a frame.
-      rows.enter(0);
+      // What it is made of has no frame: frames come with the definitions that it does.
+      rows.place = 0;
       state = GOES;
       return length;
     }
@@ -2287,9 +2287,16 @@ public final class ForthHouse {
       int lack = rows.lack(TAKES[number], LEAVES[number]);
       if (lack != 0) return lack;
       if (number != EXIT) return rows.core(number);
-      int code = rows.exit();
-      if (code == 0 && rows.frameCount == 0) state = OVER;
-      return code;
+      return rows.frameCount > 0 ? rows.exit() : end();
+    }
+
+    /** EXIT of what it is made of, at the beginning of which RETURN and LOOPS were empty. */
+    private int end() {
+      if (rows.returnCount > 0) return RETURN_LEFT;
+      if (rows.loopCount > 0) return NO_LOOP;
+      rows.localCount = 0;
+      state = OVER;
+      return 0;
     }
 
     int tell(int what) {

@@ -513,11 +513,13 @@ public final class PromisesTest {
     b.due("what -1", b.house.chipTold(-1), BAD);
     b.good(": sq 5 >R 10 0 DO 1 0 / LOOP R> DROP ; : a 9 sq ;");
     b.due("a", b.house.chip(0, 173), 21);
+    int[] made = {0, 0, 0, 0, 0, 0, 21, 0};
+    for (int i = 0; i < 8; i++) b.due("told of one just made " + i, b.house.chipTold(i), made[i]);
     b.house.chipGo(8);
-    int[] due = {14, 2, 1, 1, 0, 8, 21, 2};
+    int[] due = {14, 2, 1, 1, 0, 8, 21, 1};
     for (int i = 0; i < 8; i++) b.due("told " + i, b.house.chipTold(i), due[i]);
     b.due("FAULT", b.house.chipGo(9), -2);
-    int[] then = {16, 1, 1, 1, -10, 10, 21, 2};
+    int[] then = {16, 1, 1, 1, -10, 10, 21, 1};
     for (int i = 0; i < 8; i++) b.due("told then " + i, b.house.chipTold(i), then[i]);
     b.end();
   }

@@ -149,9 +149,13 @@ public final class ForthHouse {
   private final Forth[] systems = new Forth[SYSTEMS];
   private int systemCount;
   private final Forth[] images = new Forth[IMAGES];
+  private final boolean[] kept = new boolean[IMAGES];
   private final Chip board = new Chip();
 
+  // All that systems and images ever need is made here: no call makes anything.
   public ForthHouse() {
+    for (int i = 0; i < SYSTEMS; i++) systems[i] = new Forth();
+    for (int i = 0; i < IMAGES; i++) images[i] = new Forth();
   }
 
   public int type(long bytes, int n) {
@@ -171,7 +175,7 @@ public final class ForthHouse {
   public int system(int cell, int choices) {
     if (cell < 2 || cell > 4 || choices < 0 || choices > 7) return BAD;
     if (systemCount >= SYSTEMS) return FULL;
-    systems[systemCount] = new Forth(cell, choices);
+    systems[systemCount].begin(cell, choices);
     return systemCount++;
   }
 
@@ -325,18 +329,17 @@ public final class ForthHouse {
   public int keep(int system, int image) {
     Forth forth = systemOf(system);
     if (forth == null || image < 0 || image >= IMAGES) return BAD;
-    if (images[image] == null) images[image] = new Forth(2, 0);
     images[image].become(forth);
+    kept[image] = true;
     return 1;
   }
 
   public int again(int system, int image) {
     if (system < 0 || system > systemCount || image < 0 || image >= IMAGES) return BAD;
-    Forth kept = images[image];
-    if (kept == null) return NONE;
+    if (!kept[image]) return NONE;
     if (system >= SYSTEMS) return FULL;
-    if (system == systemCount) systems[systemCount++] = new Forth(2, 0);
-    systems[system].become(kept);
+    if (system == systemCount) systemCount++;
+    systems[system].become(images[image]);
     return system;
   }
 
@@ -2336,12 +2339,16 @@ public final class ForthHouse {
     int ended = NONE;
     boolean outside;
 
-    Forth(int cell, int choices) {
+    Forth() {
+      for (int i = 0; i < TASKS; i++) tasks[i] = new Task(space);
+      tasks[0].state = READY;
+    }
+
+    /** What is told of a system as it is made; nothing else has been done with it before. */
+    void begin(int cell, int choices) {
       space.cellBytes = cell;
       space.choices = choices;
       space.layCell(BASE_AT, 10);
-      for (int i = 0; i < TASKS; i++) tasks[i] = new Task(space);
-      tasks[0].state = READY;
     }
 
     void become(Forth other) {

@@ -105,6 +105,36 @@ public final class PromisesTest {
     b.due("case", b.run(0, "1 dup", 99), 0);
     b.due("differs by case", b.run(1, "1 dup", 99), -2);
     b.end();
+    systemBegins();
+  }
+
+  /** Whatever was done and kept before, a system begins as part 1 says. */
+  private static void systemBegins() {
+    Bench b = new Bench("promise 4, how a system begins");
+    for (int kind = 0; kind < 24; kind++) {
+      int cell = 2 + kind / 8;
+      int choices = kind % 8;
+      Bench used = new Bench("", 4, kind % 3);
+      used.run("1 2 : a WORDLIST >ORDER DEFINITIONS 5 ; a VARIABLE c -1 c ! 9 BASE ! .\" x\" 1 THROW");
+      used.house.keep(0, 0);
+      used.house.again(1, 0);
+      int made = used.house.system(cell, choices);
+      Bench fresh = new Bench("", cell, choices);
+      for (int what = 0; what <= 15; what++) {
+        b.due("count " + what, used.house.count(made, what), fresh.house.count(0, what));
+      }
+      for (int at = 0; at < 4096; at++) {
+        int base = (choices & 4) != 0 ? cell - 1 : 0;
+        b.due("byte " + at, used.house.fetch(made, at, 1), at == base ? 10 : 0);
+      }
+      b.due("out", used.house.out(made, 0), NONE);
+      b.due("thrown", used.house.thrown(made, 0), 0);
+      b.due("depth", used.house.depth(made, 0, 0), 0);
+      b.due("task 0", used.house.task(made, 0), 1);
+      b.due("task 1", used.house.task(made, 1), 0);
+      b.due("its own", used.house.same(0, made), false);
+    }
+    b.end();
   }
 
   private static void evaluate() {
@@ -598,6 +628,30 @@ public final class PromisesTest {
     b.due("kept anew", b.house.keep(0, 1), 1);
     b.house.again(1, 1);
     b.due("as it was then", b.data(1, 0), "1 2");
+    b.end();
+    keepsAll();
+  }
+
+  /** An image is not what becomes of its system, and a system not what becomes of its image. */
+  private static void keepsAll() {
+    Bench b = new Bench("promise 29, an image stays");
+    b.house.system(3, 5);
+    b.run(0, "7 : a 1 ; ", 99);
+    b.house.keep(0, 0);
+    b.due("the other image is none", b.house.again(0, 1), NONE);
+    b.due("made again", b.house.again(1, 0), 1);
+    b.due("the same", b.house.same(0, 1), true);
+    b.run(0, "DROP 8 : b 2 ; 512 ALLOT 1 300 !", 99);
+    b.due("the system goes on alone", b.house.same(0, 1), false);
+    b.due("a third", b.house.again(2, 0), 2);
+    b.due("the image stays", b.house.same(1, 2), true);
+    b.run(2, "DROP 9 : c 3 ;", 99);
+    b.due("what was made goes on alone", b.house.same(1, 2), false);
+    b.due("back", b.house.again(2, 0), 2);
+    b.due("the image stays", b.house.same(1, 2), true);
+    b.due("its cells", b.house.fetch(2, 4095, 0), BAD);
+    b.due("its cells", b.house.fetch(2, 4093, 0), 0);
+    b.due("its choices", b.run(2, "-7 2 /", 99) + b.house.cell(2, 0, 0, 0), -4);
     b.end();
   }
 

@@ -1281,8 +1281,6 @@ public final class ForthHouse {
     byte[] source;
     int from;
     int length;
-    int parsedFrom;
-    int parsedLength;
 
     Texts(Space space) {
       this.space = space;
@@ -1375,22 +1373,22 @@ public final class ForthHouse {
       return b >= 0 && b <= 32;
     }
 
-    /** Goes on behind the next such byte; what was ahead of it is what was parsed. */
-    void parse(int delimiter, boolean hasText) {
-      parsedFrom = 0;
-      parsedLength = 0;
+    /** Reads up to the next such byte, and goes on behind it; only task 0 has a text. */
+    void readUpTo(int delimiter, boolean hasText) {
+      readLength = 0;
       if (!hasText) return;
       int at = (int) Math.min(space.bare(space.cellAt(IN_AT)), length);
-      int begin = at;
-      while (at < length && source[from + at] != delimiter) at++;
-      parsedFrom = from + begin;
-      parsedLength = at - begin;
+      while (at < length && readLength < SPACE_ROOM && source[from + at] != delimiter) {
+        read[readLength++] = source[from + at];
+        at++;
+      }
+      // The text may hold the cell of >IN: what was read is what stood there before this.
       space.layCell(IN_AT, at < length ? at + 1 : at);
     }
 
     void skipLine(boolean hasText) {
       if (!inBlock()) {
-        parse(10, hasText);
+        readUpTo(10, hasText);
       } else if (hasText) {
         int at = (int) Math.min(space.bare(space.cellAt(IN_AT)), length);
         space.layCell(IN_AT, (at + LINE_BYTES - 1) / LINE_BYTES * LINE_BYTES);
@@ -2797,7 +2795,7 @@ public final class ForthHouse {
         case TO: case IS: return setNamed(token);
         case DOES: return addDoes();
         case S_QUOTE: case DOT_QUOTE: case ABORT_QUOTE: return string(task, token);
-        case PAREN: texts.parse(')', hasText()); return 0;
+        case PAREN: texts.readUpTo(')', hasText()); return 0;
         case BACKSLASH: texts.skipLine(hasText()); return 0;
         case LOCALS: return readLocals();
         case QUOTATION: return beginQuotation();
@@ -2946,23 +2944,23 @@ public final class ForthHouse {
     }
 
     private int string(Task task, int token) {
-      texts.parse('"', hasText());
-      int n = texts.parsedLength;
+      texts.readUpTo('"', hasText());
+      int n = texts.readLength;
       if (!making.compiling && token == DOT_QUOTE) {
-        sink.write(texts.source, texts.parsedFrom, n);
+        sink.write(texts.read, 0, n);
         return 0;
       }
       if (!making.compiling) {
         int lack = task.lack(0, 2);
         if (lack != 0) return lack;
         if (n > STRINGS_ROOM) return STRING_LONG;
-        System.arraycopy(texts.source, texts.parsedFrom, space.bytes, STRINGS_AT, n);
+        System.arraycopy(texts.read, 0, space.bytes, STRINGS_AT, n);
         task.push(STRINGS_AT);
         task.push(n);
         return 0;
       }
       if (!space.hasRoom(n) || !items.hasRoom(token == S_QUOTE ? 2 : 3)) return NO_ROOM;
-      System.arraycopy(texts.source, texts.parsedFrom, space.bytes, space.here, n);
+      System.arraycopy(texts.read, 0, space.bytes, space.here, n);
       items.add(K_LIT, space.here);
       items.add(K_LIT, n);
       if (token == DOT_QUOTE) items.add(K_WORD, TYPE);
@@ -3064,7 +3062,8 @@ public final class ForthHouse {
       int f = Task.FRAME * (task.frameCount - 1);
       task.frames[f + Task.DATAED] = task.dataCount;
       task.frames[f + Task.IN] = space.cellAt(IN_AT);
-      task.frames[f + Task.TEXTS] = texts.nested;
+      // Another task than 0 has no text that could have been another one then.
+      task.frames[f + Task.TEXTS] = hasText() ? texts.nested : 0;
       ask(token, false);
       return 0;
     }

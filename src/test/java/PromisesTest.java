@@ -733,5 +733,27 @@ public final class PromisesTest {
     c.house.put(1, 3, 3);
     b.due("BLOCKS", c.house.same(0, 1), true);
     b.end();
+    sameCatch();
+  }
+
+  /** The frame of a CATCH has the text and >IN then; another task than 0 has no text. */
+  private static void sameCatch() {
+    Bench b = new Bench("promise 31, frames of CATCH", 2, 0);
+    b.good(": w PAUSE ; : t ['] w CATCH ; ' t TASK DROP");
+    b.house.keep(0, 0);
+    b.due("another system", b.house.again(1, 0), 1);
+    b.due("another system", b.house.again(2, 0), 2);
+    b.due("in the main text", b.run(0, "PAUSE S\" PAUSE \" 2DROP ", 99), 0);
+    b.due("in a nested one", b.run(1, "S\" PAUSE \" EVALUATE    ", 99), 0);
+    b.due("elsewhere in the main text", b.run(2, "S\" PAUSE \" 2DROP PAUSE ", 99), 0);
+    b.due("no text of its own", b.house.same(0, 1), true);
+    b.due("another >IN", b.house.same(0, 2), false);
+    b.due("another DATA", b.run(1, "' w TASK", 99), 0);
+    b.due("another task more", b.house.same(0, 1), false);
+    alike(b, ": a PAUSE ; ' a CATCH DROP", ": a PAUSE ; ' a CATCH DROP", true);
+    alike(b, ": a BEGIN AGAIN ; ' a CATCH", ": a BEGIN AGAIN ; ' a CATCH", true);
+    alike(b, ": a BEGIN AGAIN ; 1 ' a CATCH", ": a BEGIN AGAIN ; ' a CATCH 1", false);
+    alike(b, ": c 9 >IN ! BEGIN AGAIN ; ' c CATCH ", ": c 9 >IN ! BEGIN AGAIN ; ' c  CATCH", false);
+    b.end();
   }
 }

@@ -9,6 +9,7 @@ public final class TextsTest {
     blocks();
     looking();
     strings();
+    stringsOverIn();
     Bench.exit();
   }
 
@@ -195,6 +196,24 @@ public final class TextsTest {
     b.due("however long", b.house.count(0, 3), 256);
     b.thrown(": q 63 0 DO 1 LOOP ; q S\" " + s + "b\"", -3);
     b.due(">IN is behind it", b.house.thrown(0, 1), 26 + 130);
+    b.end();
+  }
+
+  /** Texts from 0 on hold the cell of >IN: a string is what stood there as it was read. */
+  private static void stringsOverIn() {
+    Bench b = new Bench("strings that lie over >IN", 2, 4);
+    b.good("21282 2 ! 0 9 EVALUATE");
+    b.due("S\"", b.data(0, 0), "128 4");
+    b.due("its first byte is >IN then", b.house.fetch(0, 128, 1), 5);
+    b.due("the others are 0", b.house.fetch(0, 129, 1) + b.house.fetch(0, 130, 0), 0);
+    b.good("2DROP 11810 2 ! 0 9 EVALUATE");
+    b.due(".\"", b.out(0), "" + (char) 5 + (char) 0 + (char) 0 + (char) 0);
+    b.good("21282 2 ! : e 0 9 EVALUATE ; IMMEDIATE : a e ;");
+    b.due("S\" in a definition", b.house.fetch(0, 256, 1), 5);
+    b.data("a", "256 4");
+    b.good("11810 2 ! : p e ; p");
+    b.due(".\" in a definition", b.out(0).length() + b.house.out(0, 4), 13);
+    b.due("as it was read", b.house.fetch(0, 260, 1), 5);
     b.end();
   }
 }

@@ -1,3 +1,5 @@
+import java.util.function.IntSupplier;
+
 /** What the tests share: a house with one system on it, texts given as strings, and the counting. */
 public final class Bench {
   private static int wrong = 0;
@@ -78,6 +80,49 @@ public final class Bench {
     good(text);
     due("DATA after " + text, data(0, 0), want);
     for (int n = house.depth(0, 0, 0); n > 0; n--) run("DROP");
+  }
+
+  /** A call that is refused: what it answers; all that can be told is as it was before it. */
+  void refused(String what, IntSupplier call, int answer) {
+    String before = state();
+    due(what, call.getAsInt(), answer);
+    due("what there is after " + what, state(), before);
+  }
+
+  /** All that can be told of the systems and of the chip, but for the TAPE. */
+  String state() {
+    StringBuilder all = new StringBuilder();
+    for (int s = 0; s < 3; s++) tellSystem(all, s);
+    for (int i = 0; i < 8; i++) all.append(house.chipTold(i)).append(' ');
+    for (int i = 0; i <= house.chipTold(6); i++) all.append(house.chipWord(i)).append(' ');
+    for (int i = 0; i <= house.chipTold(1); i++) all.append(house.chipCell(i)).append(' ');
+    long bytes = 0;
+    for (int i = 0; i <= 4096; i++) bytes = 31 * bytes + house.chipByte(i);
+    return all.append(bytes).toString();
+  }
+
+  private void tellSystem(StringBuilder all, int s) {
+    if (house.count(s, 0) < 0) return;
+    for (int i = 0; i < 16; i++) all.append(house.count(s, i)).append(' ');
+    for (int i = 0; i < 3; i++) all.append(house.thrown(s, i)).append(' ');
+    for (int task = 0; task < 4; task++) {
+      all.append(house.task(s, task)).append(' ');
+      for (int row = 0; row < 6; row++) {
+        int n = house.depth(s, task, row);
+        all.append(n).append(' ');
+        for (int i = 0; i < 2 * n; i++) all.append(house.cell(s, task, row, i)).append(' ');
+      }
+    }
+    long bytes = 0;
+    for (int i = 0; i < 4096; i++) bytes = 31 * bytes + house.fetch(s, i, 1);
+    for (int i = 0; house.out(s, i) >= 0; i++) bytes = 31 * bytes + house.out(s, i);
+    for (int t = 172; t < house.count(s, 1); t++) {
+      for (int i = 0; i < 8; i++) bytes = 31 * bytes + house.word(s, t, i);
+      for (int i = 0; i < 3; i++) bytes = 31 * bytes + 7 * house.effectOf(s, t, i) + house.effect(s, t);
+      for (int i = 0; i < 24; i++) bytes = 31 * bytes + house.name(s, t, i);
+    }
+    for (int i = 0; i < house.count(s, 2); i++) bytes = 31 * bytes + 7 * house.item(s, i, 0) + house.item(s, i, 1);
+    all.append(bytes).append(' ');
   }
 
   /** What a THROW leaves, caught: DATA from the lowest cell on, the code on top. */

@@ -2,6 +2,10 @@ import java.util.function.IntSupplier;
 
 /** What the tests share: a house with one system on it, texts given as strings, and the counting. */
 public final class Bench {
+  /** A word that adds so many items to the definition that is made. */
+  static final String FILL = ": n, BEGIN DUP WHILE 1- POSTPONE DUP REPEAT DROP ; IMMEDIATE ";
+  /** A word that catches what a token does, goes on behind the text, and leaves the code. */
+  static final String TRY = ": t CATCH POSTPONE \\ ; IMMEDIATE ";
   private static int wrong = 0;
 
   final ForthHouse house = new ForthHouse();

@@ -299,12 +299,9 @@ public final class EdgesPart1Test {
     b.end();
   }
 
-  /** Adds so many items to the definition that is made. */
-  static final String FILL = ": n, BEGIN DUP WHILE 1- POSTPONE DUP REPEAT DROP ; IMMEDIATE ";
-
   private static void items() {
     Bench b = new Bench("part 1: 4000 ITEMS in all", 4, 0);
-    b.good(FILL);
+    b.good(Bench.FILL);
     int free = 4000 - b.house.count(0, 2);
     b.due("3999 and EXIT", b.runOn(": w [ " + (free - 1) + " ] n, ;"), 0);
     b.due("all", b.house.count(0, 2), 4000);
@@ -316,7 +313,7 @@ public final class EdgesPart1Test {
     b.due("words that need none", b.run("VARIABLE v 5 CONSTANT c CREATE d DEFER e MARKER m"), 0);
     b.end();
     Bench c = new Bench("part 1: the item behind the last one is refused", 4, 0);
-    c.good(FILL);
+    c.good(Bench.FILL);
     free = 4000 - c.house.count(0, 2);
     c.due("one too many", c.runOn(": w [ " + free + " ] n, ;"), -2);
     c.due("code", c.house.thrown(0, 0), -8);

@@ -105,6 +105,13 @@ public final class Bench {
     return all.append(bytes).toString();
   }
 
+  /** All that can be told of a system. */
+  String told(int s) {
+    StringBuilder all = new StringBuilder();
+    tellSystem(all, s);
+    return all.toString();
+  }
+
   private void tellSystem(StringBuilder all, int s) {
     if (house.count(s, 0) < 0) return;
     for (int i = 0; i < 16; i++) all.append(house.count(s, i)).append(' ');

@@ -7,10 +7,11 @@ public final class Bench {
   /** A word that catches what a token does, goes on behind the text, and leaves the code. */
   static final String TRY = ": t CATCH POSTPONE \\ ; IMMEDIATE ";
   private static int wrong = 0;
+  // How many were wrong as the part before ended: benches within a part count for that part.
+  private static int wrongBefore = 0;
 
   final ForthHouse house = new ForthHouse();
   private final String part;
-  private boolean good = true;
 
   Bench(String part) {
     this.part = part;
@@ -24,13 +25,13 @@ public final class Bench {
 
   void due(String what, long got, long want) {
     if (got == want) return;
-    good = false;
+    wrong++;
     System.out.println("FAIL? " + part + ": " + what + " answered " + got + ", due is " + want);
   }
 
   void due(String what, String got, String want) {
     if (got.equals(want)) return;
-    good = false;
+    wrong++;
     System.out.println("FAIL? " + part + ": " + what + " answered [" + got + "], due is [" + want + "]");
   }
 
@@ -40,8 +41,8 @@ public final class Bench {
 
   /** Says how the part went. */
   void end() {
-    System.out.println((good ? "pass " : "FAIL ") + part);
-    if (!good) wrong++;
+    System.out.println((wrong == wrongBefore ? "pass " : "FAIL ") + part);
+    wrongBefore = wrong;
   }
 
   static void exit() {

@@ -165,6 +165,10 @@ public final class EdgesPart2Test {
     b.house.put(0, 4, 507);
     b.data("4 LOAD", "512");
     b.data("511 5 LOAD >IN @", "511 16");
+    b.type("S\" ");
+    b.house.put(0, 6, 500);
+    b.data("6 LOAD", "128 9");
+    for (int i = 0; i < 9; i++) b.due("a blank", b.house.fetch(0, 128 + i, 1), 32);
     b.end();
   }
 
@@ -439,7 +443,7 @@ public final class EdgesPart2Test {
 
   /** The code by which a definition ends a task. */
   private static int inTask(Bench b, String text) {
-    b.good(": w " + text + " ; ' w TASK DROP PAUSE");
+    b.good(": w " + text + " ; ' w TASK DROP PAUSE 77 88 2DROP");
     return (3 - b.house.task(0, 1)) / 16;
   }
 

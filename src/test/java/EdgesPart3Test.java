@@ -114,6 +114,8 @@ public final class EdgesPart3Test {
     b.due("the outer one's", b.effect("a"), "1 0 3 -1");
     b.good(": c [: ;] ;");
     b.due("an empty one", b.items(0, 8, 12), "2:10 0:150 1:175 0:150");
+    b.good(": d [: 5");
+    b.due("not known yet", b.items(0, 12, 14), "2:0 1:5");
     b.end();
   }
 
@@ -490,6 +492,8 @@ public final class EdgesPart3Test {
   private static void localsLast() {
     Bench b = new Bench("part 3: of locals of one name the last, by CHOICES 2", 4, 0);
     b.data(": w {: a A a :} a ; 1 2 3 w", "3");
+    b.thrown(": v a", -13);
+    b.thrown(": v [: {: q :} q ;] [: q", -13);
     b.data(": w {: a b a :} b a ; 1 2 3 w", "2 3");
     b.data(": w {: a | a :} 7 TO a a ; 1 w", "7");
     b.due("TO sets the last", b.house.item(0, b.house.count(0, 2) - 3, 1), 1);
@@ -762,6 +766,10 @@ public final class EdgesPart3Test {
       b.due("HERE behind " + need[1], one.house.count(0, 0), 256);
       if (word.equals("LITERAL")) b.due("its cell was taken", one.data(0, 0), "0 -8");
     }
+    one.house.again(0, 0);
+    one.good(": w [ " + (free - 1) + " ] n, [ S\" 5.\" ' EVALUATE ] t");
+    b.due("a double, of which one LIT has room", one.house.cell(0, 0, 0, 0), -8);
+    b.due("no LIT", one.house.count(0, 2), 3999);
     one.house.again(0, 0);
     one.good(": w [ " + free + " ] n, [ ' {: ] t a :}");
     b.due("ENTER", one.data(0, 0), "-8");

@@ -40,6 +40,7 @@ public final class EdgesPart4Test {
     noneReady();
     tester();
     testerFewer();
+    executesOfExecute();
     Bench.exit();
   }
 
@@ -114,8 +115,8 @@ public final class EdgesPart4Test {
     leaves(b, "5 6 7 -32768", "ROLL", "5 6 7 0 -4");
     leaves(b, "", "PICK", "-4");
     leaves(b, "", "ROLL", "-4");
-    leaves(b, "0", "PICK", "0 -4");
-    leaves(b, "0", "ROLL", "0 -4");
+    leaves(b, "7", "PICK", "0 -4");
+    leaves(b, "7", "ROLL", "0 -4");
     b.good(": ones 0 DO 1 LOOP ; 63 ones 62 PICK");
     b.due("in full DATA", b.house.depth(0, 0, 0), 64);
     b.good("1- ROLL");
@@ -498,6 +499,12 @@ public final class EdgesPart4Test {
     b.due("an earlier one stays", b.find("m"), 174);
     b.good("m MARKER m ONLY 1 >ORDER 2 >ORDER m");
     b.due("the order", b.house.count(0, 7), 2);
+    Bench c = new Bench("", 4, 0);
+    c.good("WORDLIST >ORDER DEFINITIONS CREATE inTwo WORDLIST >ORDER DEFINITIONS CREATE inThree PREVIOUS 1 >ORDER DEFINITIONS MARKER m");
+    c.good("PREVIOUS PREVIOUS 3 >ORDER 1 >ORDER");
+    b.due("list 3", c.find("inThree") + c.find("inTwo"), 173 - 1);
+    c.good("m");
+    b.due("list 2", c.find("inThree") + c.find("inTwo"), 172 - 1);
     b.end();
   }
 
@@ -582,6 +589,11 @@ public final class EdgesPart4Test {
     b.data("3 c", "0 -50");
     b.due("none", b.house.count(0, 7), 0);
     b.due("by no word", b.find("ONLY"), NONE);
+    Bench c = new Bench("", 4, 0);
+    c.good("WORDLIST >ORDER DEFINITIONS : alone PREVIOUS PREVIOUS >ORDER ; : reset PREVIOUS >ORDER ONLY ; 2 alone");
+    b.due("list 2 alone", c.find("alone") * 1000 + c.find("DUP"), 172 * 1000 - 1);
+    c.good("2 reset");
+    b.due("list 1 alone", c.find("DUP") * 1000 + c.find("alone"), -1);
     b.end();
   }
 
@@ -731,6 +743,23 @@ public final class EdgesPart4Test {
     b.due("or caught there", b.out(0), "1 1 -257 ");
     b.good("7 0 SEND DROP");
     b.data("RECEIVE", "7");
+    b.end();
+  }
+
+  private static void executesOfExecute() {
+    Bench b = new Bench("part 1: EXECUTE of EXECUTE, and so on, is one step");
+    b.house.system(4, 0);
+    b.good(": many 0 DO ['] EXECUTE LOOP ; ' TRUE 63 many");
+    b.due("64 tokens", b.house.depth(0, 0, 0), 64);
+    b.due("one step", b.run(0, "EXECUTE 5", 1), 1);
+    b.due("all are done", b.data(0, 0), "-1");
+    b.house.go(0, 9);
+    b.good("DROP DROP : catches 0 DO ['] CATCH LOOP ; ' TRUE 30 catches");
+    b.due("one step", b.run(0, "CATCH 5", 1), 1);
+    b.due("all are done", b.data(0, 0), "-1");
+    b.due("FRAMES", b.house.depth(0, 0, 4), 31);
+    b.due("their ends", b.house.go(0, 31), 1);
+    b.due("31 of 0", b.house.depth(0, 0, 0), 32);
     b.end();
   }
 

@@ -55,6 +55,8 @@ public final class EdgesPart5Test {
     effect(b, "DO IF 1 LEAVE THEN LOOP", "0 0 0 5");
     effect(b, "1 0 DO 1 LOOP", "0 0 0 3");
     effect(b, "1 0 DO 1 DROP LOOP", "1 0 0 -1");
+    effect(b, "IF 1 >R THEN 5", "0 0 0 3");
+    effect(b, "1 0 DO DUP IF UNLOOP THEN LOOP", "0 0 0 6");
     b.end();
   }
 
@@ -271,6 +273,9 @@ public final class EdgesPart5Test {
     effect(b, "1 0 DO 1 +LOOP", "1 0 0 -1");
     effect(b, "DO 1 DUP +LOOP", "0 0 0 1");
     effect(b, "CASE OF ENDOF ENDCASE", "1 2 0 -1");
+    effect(b, "CASE OF 5 ENDOF 5 ENDCASE", "1 2 1 -1");
+    effect(b, "CASE 1 OF EXECUTE ENDOF ENDCASE", "2 0 0 2");
+    effect(b, "CASE 1 OF ENDOF EXECUTE ENDCASE", "2 0 0 3");
     effect(b, "CASE 1 OF ENDOF ENDCASE", "1 1 0 -1");
     effect(b, "CASE 1 OF 5 ENDOF 6 SWAP ENDCASE", "1 1 1 -1");
     effect(b, "DROP TRUE DEPTH HERE 2DROP DROP", "1 1 0 -1");
@@ -313,6 +318,13 @@ public final class EdgesPart5Test {
     effect(b, "IF 1 RECURSE THEN", "1 1 0 -1");
     effect(b, "IF EXIT THEN RECURSE", "0 0 0 3");
     effect(b, "[: RECURSE ;] DROP", "1 0 0 -1");
+    Bench c = new Bench("", 4, 0);
+    c.good(": w DUP IF RECURSE THEN ; : v IF 1 RECURSE THEN ; : u IF RECURSE THEN 5 DROP ; : x ABORT RECURSE ; : y 1 ;");
+    b.due("one", c.effect("w"), "1 1 1 -1");
+    b.due("behind it another", c.effect("v"), "1 1 0 -1");
+    b.due("a CONFLICT behind that", c.effect("u"), "0 0 0 " + (c.house.word(0, c.find("u"), 3) + 2));
+    b.due("none that comes to an EXIT", c.effect("x"), "2 0 0 " + c.house.word(0, c.find("x"), 3));
+    b.due("one that does not do itself", c.effect("y"), "1 0 1 -1");
     b.end();
   }
 
@@ -380,6 +392,8 @@ public final class EdgesPart5Test {
     lean(b, "5 2/", 0, "1:5 0:32 0:150");
     lean(b, "5 0<>", 0, "1:5 0:51 0:150");
     lean(b, "DUP 1+", 0, "0:0 0:29 0:150");
+    lean(b, "5 DUP +", 0, "1:5 0:0 0:21 0:150");
+    lean(b, "DUP 5 +", 0, "0:0 1:5 0:21 0:150");
     b.end();
   }
 

@@ -19,6 +19,9 @@ public final class EdgesPart6Test {
     steps();
     imagesAsTheyAre();
     imagesInTheMidst();
+    imagesOfMarkers();
+    imagesOfMaking();
+    imagesOfThrows();
     Bench.exit();
   }
 
@@ -214,6 +217,9 @@ public final class EdgesPart6Test {
     fault(b, "1 >R", -25, 3, 3);
     fault(b, "1 0 DO EXIT LOOP", -26, 5, 4);
     fault(b, "1 0 DO 1 >R EXIT LOOP", -25, 8, 6);
+    b.house.chip(0, b.find("d"));
+    b.due("a chip that is made after a FAULT", b.house.chipTold(4), 0);
+    b.due("it goes on", b.house.chipPut(1) + b.house.chipGo(1), 2);
     b.good(": t 1 >R ; : s 1 0 DO EXIT LOOP ;");
     fault(b, "t", -25, 2 + 3, 4);
     fault(b, "s", -26, 2 + 5, 5);
@@ -348,6 +354,59 @@ public final class EdgesPart6Test {
       b.due("told in the end behind " + behind, b.told(1), b.told(0));
       b.due("the same in the end behind " + behind, b.house.same(0, 1), true);
     }
+  }
+
+  private static void imagesOfMarkers() {
+    Bench b = new Bench("part 7: of a MARKER, too, what it goes back to", 4, 0);
+    b.good("WORDLIST >ORDER DEFINITIONS : a 1 ; WORDLIST >ORDER CREATE c 9 ALLOT MARKER m : d 2 ; 5 , ONLY 2 >ORDER");
+    b.house.keep(0, 0);
+    for (int i = 0; i < 3; i++) {
+      b.house.again(1, 0);
+      if (i == 0) b.run(1, "1 ALLOT WORDLIST DROP : x 1 2 3 ; MARKER n MARKER o 2 ALLOT", 99);
+      if (i == 1) b.run(1, "m MARKER y 3 ALLOT : z 1 2 3 4 ; MARKER q", 99);
+      b.house.again(1, 0);
+      b.due("both go back", b.run(0, "m", 9), b.run(1, "m", 9));
+      b.due("told", b.told(1), b.told(0));
+      b.due("the same", b.house.same(0, 1), true);
+      b.due("HERE", b.house.count(1, 0), 265);
+      b.due("order", b.house.count(1, 7), 3);
+      b.due("latest", b.house.count(1, 13), 173);
+      b.house.again(0, 0);
+    }
+    b.end();
+  }
+
+  private static void imagesOfMaking() {
+    Bench b = new Bench("part 7: of what is under way, too, whether it has a name and what is latest without it", 4, 0);
+    b.good("CREATE a :NONAME 1 [: 2");
+    b.house.keep(0, 0);
+    b.house.again(1, 0);
+    b.run(1, ";] DROP ; CREATE c CREATE d : e 1", 99);
+    b.house.again(1, 0);
+    b.due("it goes on", b.run(1, ";] DROP ;", 99), 0);
+    b.due("a token is left", b.data(1, 0), "173");
+    b.house.again(1, 0);
+    b.run(1, ";] DROP ; CREATE c CREATE d : e 1", 99);
+    b.house.again(1, 0);
+    b.due("thrown out", b.run(1, "foo", 9), -2);
+    b.due("the latest", b.house.count(1, 13), 172);
+    b.due("words", b.house.count(1, 1), 173);
+    b.end();
+  }
+
+  private static void imagesOfThrows() {
+    Bench b = new Bench("part 7: of what was thrown, too, and of a task's code", 4, 0);
+    b.good(": w 5 THROW ; ' w TASK DROP PAUSE");
+    b.thrown("  S\" 1 foo\" EVALUATE", -13);
+    b.house.keep(0, 1);
+    b.house.again(1, 1);
+    b.run(1, ": v ; ' v TASK DROP PAUSE 7 THROW", 99);
+    b.house.again(1, 1);
+    b.due("code", b.house.thrown(1, 0), -13);
+    b.due(">IN", b.house.thrown(1, 1), 5);
+    b.due("nested", b.house.thrown(1, 2), 1);
+    b.due("a task's code", b.house.task(1, 1), 3 - 80);
+    b.end();
   }
 
   private static void imagesInTheMidst() {

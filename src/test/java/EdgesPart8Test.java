@@ -8,6 +8,7 @@ public final class EdgesPart8Test {
     nothingTakenOfFew();
     noPlace();
     nothingTakenOnTheChip();
+    fullButDone();
     notWhileInterpreting();
     doneWhileInterpreting();
     shifts();
@@ -181,6 +182,23 @@ public final class EdgesPart8Test {
       b.due("cells of " + parts[0], one.house.chipTold(1), 64 - more + 1);
       b.due("code of " + parts[0], one.house.chipTold(4), -3);
       b.due("the top of " + parts[0], one.house.chipCell(0), 64 - more + 5);
+    }
+    b.end();
+  }
+
+  private static void fullButDone() {
+    Bench b = new Bench("part 4: with full DATA, too, what leaves no more than it takes is done");
+    for (String t : (": q ;|:NONAME 1|CONSTANT q|VALUE q|VARIABLE q|CREATE q|DEFER q|MARKER q|MARKER q q|: q ; IMMEDIATE|: q [ ] ;|: q POSTPONE DUP ;"
+        + "|5 VALUE q TO q|DEFER q IS q|: q [ ROT ] LITERAL ;|: q RECURSE ;|: q DOES> ;|: q ['] DUP [CHAR] x ;|EXECUTE|EVALUATE|.\" a\"|( a )|\\ a"
+        + "|: q S\" a\" .\" a\" ABORT\" a\" ;|: q {: x :} x TO x ;|: q [: ;] ;|: q IF ELSE THEN BEGIN UNTIL BEGIN WHILE REPEAT BEGIN AGAIN ;"
+        + "|: q AHEAD THEN DO LEAVE LOOP ?DO I J UNLOOP +LOOP EXIT CASE OF ENDOF ENDCASE ;|1 CATCH|THROW|1 >ORDER|PREVIOUS|DEFINITIONS"
+        + "|ONLY|TASK|PAUSE|SEND|LOAD|T{|->|}T|: r DOES> ; CREATE q r|[|: q 5 5.").split("\\|")) {
+      Bench one = new Bench("", 4, 0);
+      // What needs a cell of its own takes the place of one.
+      String cells = t.startsWith("5 ") || t.startsWith("1 ") ? "63 zeros" : "64 zeros";
+      one.run(": zeros 0 DO 0 LOOP ; " + cells);
+      one.run(t);
+      b.due("code of " + t, one.house.thrown(0, 0), 0);
     }
     b.end();
   }

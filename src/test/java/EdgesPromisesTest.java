@@ -57,6 +57,7 @@ public final class EdgesPromisesTest {
     leanRefused();
     leanState();
     leanFewer();
+    leanOfLater();
     chipRefused();
     chipNone();
     chipWords();
@@ -583,6 +584,10 @@ public final class EdgesPromisesTest {
     b.due("the lowest of 64", b.house.cell(0, 0, 0, 63), 0);
     b.due("the one above", b.house.cell(0, 0, 0, 62), 1);
     b.due("none behind", b.house.cell(0, 0, 0, 64), 0);
+    Bench gone = new Bench("", 4, 0);
+    gone.good(": low {: p q :} 8 >R 9 >R 2R> 2DROP ; : high {: a :} 5 6 low PAUSE ; : top 7 high ; ' top TASK DROP PAUSE");
+    b.due("a local", gone.house.cell(0, 1, 3, 0), 7);
+    for (int i = 1; i < 4; i++) b.due("what was there before, " + i, gone.house.cell(0, 1, 3, i) + gone.house.cell(0, 1, 1, i - 1), 0);
     b.end();
   }
 
@@ -753,6 +758,10 @@ public final class EdgesPromisesTest {
     b.good(": l 1 2 + ;");
     b.house.lean(0, b.find("l"));
     b.due("leaner", b.house.word(0, b.find("l"), 4), 2);
+    b.good("MARKER m : e 1 2 3 ; : f 4 5 ; m : e [");
+    b.due("HIDDEN, where one was", b.house.word(0, b.house.count(0, 13), 4), 0);
+    b.good("] ; CREATE f");
+    b.due("of no definition, where one was", b.house.word(0, b.house.count(0, 13), 4), 0);
     b.due("no DOES of a definition", b.house.word(0, 172, 5), NONE);
     b.end();
   }
@@ -863,6 +872,14 @@ public final class EdgesPromisesTest {
     b.refused("none more", () -> b.house.lean(0, 173), 0);
     b.due("7", b.house.lean(0, 174), 7);
     b.data("1 a c d", "1 3");
+    b.end();
+  }
+
+  private static void leanOfLater() {
+    Bench b = new Bench("promise 20: a definition that has the token of one that had one within is none of these", 4, 0);
+    b.good("MARKER m : a [: ;] DROP ; m : x ; : y ; : z 1 2 + ; : q [: ;] DROP ;");
+    b.due("where the one within was", b.house.lean(0, 174), 2);
+    b.due("with one within", b.house.lean(0, 175), BAD);
     b.end();
   }
 
@@ -1167,6 +1184,8 @@ public final class EdgesPromisesTest {
     same(b, "WORDLIST DROP", "1 >ORDER", "1 DROP  ", false);
     same(b, "WORDLIST DROP", "2 >ORDER DEFINITIONS", "2 >ORDER            ", false);
     same(b, "WORDLIST DROP", "2 >ORDER DEFINITIONS ONLY", "ONLY                     ", false);
+    same(b, "WORDLIST DROP : o PREVIOUS >ORDER ;", "1 o", "2 o", false);
+    same(b, "WORDLIST DROP : o PREVIOUS >ORDER ;", "1 o", "1 o", true);
     b.end();
   }
 
@@ -1176,6 +1195,7 @@ public final class EdgesPromisesTest {
     same(b, "", ": a ;", ": A ;", false);
     same(b, "", ": a ;", ": b ;", false);
     same(b, "", "CREATE aa", "CREATE a ", false);
+    same(b, "", "DEFER a", "       ", false);
     same(b, "", "CREATE a", "DEFER  a", false);
     same(b, "", "5 CONSTANT a", "6 CONSTANT a", false);
     same(b, "", "5 CONSTANT a", "5 VALUE    a", false);
@@ -1229,6 +1249,8 @@ public final class EdgesPromisesTest {
     same(b, ": w THROW ;", "' w TASK PAUSE", "' w TASK PAUSE", true);
     same(b, ": w 5 THROW ; : v 6 THROW ;", "' w TASK PAUSE", "' v TASK PAUSE", false);
     same(b, ": w 5 THROW ; : v ;", "' w TASK PAUSE", "' v TASK PAUSE", false);
+    same(b, ": w 5 THROW ; : v ; : z ;", "' w TASK PAUSE ' z TASK 2DROP", "' v TASK PAUSE ' z TASK 2DROP", true);
+    same(b, ": w 1 0 DO 3 3 DO UNLOOP EXIT LOOP LOOP ; : x 9 8 DO PAUSE LOOP ; : y 4 0 DO 2 0 DO LOOP LOOP x ; : z 4 0 DO 3 1 DO LOOP LOOP x ;", "y", "z", true);
     same(b, ": w PAUSE 1 ; : v PAUSE 1 ;", "' w TASK PAUSE", "' v TASK PAUSE", false);
     same(b, ": w PAUSE PAUSE ; ' w TASK PAUSE", "PAUSE", "     ", false);
     same(b, ": w >R PAUSE R> ; : x 5 w ; : y 5 w ;", "' x TASK PAUSE", "' y TASK PAUSE", false);
@@ -1284,6 +1306,7 @@ public final class EdgesPromisesTest {
     midst(b, "VARIABLE p : e p @ 0 p ! SWAP EVALUATE ;", "1000 p ! 0 e     ", 11, "2000 p ! 0 e     ", 11, false);
     noBytes(b);
     waiting(b);
+    kindsAndLengths(b);
     Bench two = new Bench("", 4, 0);
     two.house.system(4, 0);
     two.run(0, "1 LOAD", 2);
@@ -1309,6 +1332,33 @@ public final class EdgesPromisesTest {
       b.due("nested", two.house.count(0, 15), 1);
       b.due("a text of " + n + " bytes at 1000 / at 2000", two.house.same(0, 1), n == 0);
     }
+  }
+
+  /** Texts of one place that differ by their length alone, or by their kind alone. */
+  private static void kindsAndLengths(Bench b) {
+    // DATA and what v holds ahead of the text, of each system; what the text is; how many steps are done.
+    String[][] due = {{"1000 2", "1000 3", "EVALUATE"}, {"1000 2", "1000 2", "EVALUATE"}, {"1 512 ' EVALUATE v !", "1     ' LOAD     v !", "x"},
+      {"1     ' LOAD     v !", "1     ' LOAD     v !", "x"}};
+    for (int i = 0; i < due.length; i++) {
+      Bench two = new Bench("", 4, 0);
+      two.run("VARIABLE v : x v @ 0 v ! EXECUTE ;");
+      two.house.keep(0, 0);
+      two.house.again(1, 0);
+      for (int s = 0; s < 2; s++) {
+        two.run(s, due[i][s], 99);
+        two.run(s, due[i][2], i < 2 ? 1 : 7);
+      }
+      b.due("nested", two.house.count(0, 15) * 10 + two.house.count(1, 15), 11);
+      b.due("DATA is alike", two.data(0, 0), two.data(1, 0));
+      b.due(due[i][0] + " / " + due[i][1], two.house.same(0, 1), i % 2 == 1);
+    }
+    Bench over = new Bench("", 4, 0);
+    over.house.system(4, 0);
+    over.run(0, "1000 2 EVALUATE", 99);
+    over.run(1, "2000 3 EVALUATE", 99);
+    over.run(0, "1 2", 1);
+    over.run(1, "1 2", 1);
+    b.due("nested texts that are over", over.house.same(0, 1), true);
   }
 
   /** The >IN of the main text that waits, which is elsewhere in the same bytes. */

@@ -200,6 +200,10 @@ public final class EdgesPart8Test {
       one.run(t);
       b.due("code of " + t, one.house.thrown(0, 0), 0);
     }
+    b.due("ABORT", code("ABORT", 64), -1);
+    Bench task = new Bench("", 4, 0);
+    task.good(": w 64 0 DO 0 LOOP STOP ; ' w TASK DROP PAUSE");
+    b.due("STOP", task.house.task(0, 1), 3);
     b.end();
   }
 

@@ -1250,7 +1250,8 @@ public final class EdgesPromisesTest {
     same(b, ": w 5 THROW ; : v 6 THROW ;", "' w TASK PAUSE", "' v TASK PAUSE", false);
     same(b, ": w 5 THROW ; : v ;", "' w TASK PAUSE", "' v TASK PAUSE", false);
     same(b, ": w 5 THROW ; : v ; : z ;", "' w TASK PAUSE ' z TASK 2DROP", "' v TASK PAUSE ' z TASK 2DROP", true);
-    same(b, ": w 1 0 DO 3 3 DO UNLOOP EXIT LOOP LOOP ; : x 9 8 DO PAUSE LOOP ; : y 4 0 DO 2 0 DO LOOP LOOP x ; : z 4 0 DO 3 1 DO LOOP LOOP x ;", "y", "z", true);
+    same(b, "VARIABLE q : x 9 8 DO BEGIN AGAIN LOOP ; : y q @ 0 q ! 4 0 DO DUP 2 + OVER DO LOOP LOOP DROP x ;", "5 q ! y", "6 q ! y", true);
+    same(b, "VARIABLE q : x 9 8 DO BEGIN AGAIN LOOP ; : y q @ 0 q ! 4 0 DO DUP 2 + OVER DO x LOOP LOOP ;", "5 q ! y", "6 q ! y", false);
     same(b, ": w PAUSE 1 ; : v PAUSE 1 ;", "' w TASK PAUSE", "' v TASK PAUSE", false);
     same(b, ": w PAUSE PAUSE ; ' w TASK PAUSE", "PAUSE", "     ", false);
     same(b, ": w >R PAUSE R> ; : x 5 w ; : y 5 w ;", "' x TASK PAUSE", "' y TASK PAUSE", false);
